@@ -25,7 +25,6 @@ public final class KiltRoom {
     private final Tape tape = new Tape();
     private final SettReader settReader = new SettReader();
     private final TextReader textReader = new TextReader();
-    private final Reckoner reckoner = new Reckoner();
     private final Layer layer = new Layer();
     private final Cutter cutter = new Cutter();
 
@@ -189,7 +188,7 @@ public final class KiltRoom {
     public int lay(int kilt, int bolt) {
         Kilt k = kiltOf(kilt);
         Bolt b = boltOf(bolt);
-        if (k == null || b == null || !k.hasItsStripe(b.cloth)) {
+        if (k == null || b == null || !k.hasItsStripe(b.weave)) {
             return BAD;
         }
         int used = layer.search(k, b);
@@ -205,7 +204,7 @@ public final class KiltRoom {
         if (k == null || what < 0 || what > 4) {
             return BAD;
         }
-        if (k.cloth == null) {
+        if (k.laidOn == null) {
             return STATE;
         }
         switch (what) {
@@ -225,7 +224,7 @@ public final class KiltRoom {
         if (what == 2) {
             return made.lossOf(k);
         }
-        if (made.cloth == null) {
+        if (made.laidOn == null) {
             return STATE;
         }
         switch (what) {
@@ -240,14 +239,14 @@ public final class KiltRoom {
         if (k == null) {
             return BAD;
         }
-        if (k.cloth == null) {
+        if (k.laidOn == null) {
             return STATE;
         }
         int all = k.threadsAround(waist);
         if (i < 0 || i >= all) {
             return NONE;
         }
-        return k.cloth.cloth.colourAt(k.threadShown(k.turned ? all - 1 - i : i, waist));
+        return k.laidOn.weave.colourAt(k.threadShown(k.turned ? all - 1 - i : i, waist));
     }
 
     public int around(int kilt, boolean waist) {
@@ -255,7 +254,7 @@ public final class KiltRoom {
         if (k == null) {
             return BAD;
         }
-        return k.cloth == null ? STATE : k.threadsAround(waist);
+        return k.laidOn == null ? STATE : k.threadsAround(waist);
     }
 
     public int let(int kilt, int d) {
@@ -263,7 +262,7 @@ public final class KiltRoom {
         if (k == null || d < -MOST_LET || d > MOST_LET) {
             return BAD;
         }
-        if (k.cloth == null || !k.canShow(k.widthNow + d)) {
+        if (k.laidOn == null || !k.canShow(k.widthNow + d)) {
             return STATE;
         }
         k.widthNow += d;
@@ -275,7 +274,7 @@ public final class KiltRoom {
         if (k == null) {
             return BAD;
         }
-        if (k.cloth == null) {
+        if (k.laidOn == null) {
             return STATE;
         }
         k.turned = !k.turned;
@@ -309,11 +308,11 @@ public final class KiltRoom {
 
     public long says(int kilt, int part) {
         Kilt k = kiltOf(kilt);
-        if (k == null || k.cloth == null || part < 0 || part > 1) {
+        if (k == null || k.laidOn == null || part < 0 || part > 1) {
             return NO;
         }
         Text text = rule >= 0 && rule < textCount ? texts[rule] : null;
-        return text == null ? NO : reckoner.worth(text, part, k);
+        return text == null ? NO : text.worth(part, k);
     }
 
     // ---- a band
@@ -323,7 +322,7 @@ public final class KiltRoom {
         if (k == null) {
             return BAD;
         }
-        if (wholeBolt == null || !k.hasItsStripe(wholeBolt.cloth)) {
+        if (wholeBolt == null || !k.hasItsStripe(wholeBolt.weave)) {
             return STATE;
         }
         return threadsNeeded(k);
@@ -342,7 +341,7 @@ public final class KiltRoom {
         }
         for (int n = 0; n < MOST_KILTS; n++) {
             Kilt k = (kilts >> n & 1) == 1 ? kiltOf(n) : null;
-            cutter.needed[n] = k != null && k.hasItsStripe(wholeBolt.cloth) ? threadsNeeded(k) : NONE;
+            cutter.needed[n] = k != null && k.hasItsStripe(wholeBolt.weave) ? threadsNeeded(k) : NONE;
         }
         return cutter.cutAll();
     }
@@ -457,7 +456,8 @@ public final class KiltRoom {
     private int laidKilts() {
         int found = 0;
         for (int n = 0; n < kiltCount; n++) {
-            if (kilts[n].cloth != null) {
+            Kilt k = kiltOf(n);
+            if (k != null && k.laidOn != null) {
                 found++;
             }
         }
@@ -631,13 +631,13 @@ public final class KiltRoom {
     }
 
     private static final class Bolt {
-        final Sett cloth;
+        final Sett weave;
         final int settNumber, length;
         private final int[] marred = new int[MOST_FLAWS];
         private int flawCount;
 
-        Bolt(Sett cloth, int settNumber, int length) {
-            this.cloth = cloth;
+        Bolt(Sett weave, int settNumber, int length) {
+            this.weave = weave;
             this.settNumber = settNumber;
             this.length = length;
         }
@@ -691,9 +691,10 @@ public final class KiltRoom {
 
     private static final class Kilt {
         final int style, inch, hip, waist, pleats, stripe, width, apron, taper;
+        final boolean striped;
         final Laying laying;
         /** The BOLT on which it is LAID, or null. */
-        Bolt cloth;
+        Bolt laidOn;
         int boltNumber = NONE, widthNow = NONE;
         boolean turned;
         /** What it needs of SETT 0; 0 while nobody has asked. */
@@ -709,19 +710,16 @@ public final class KiltRoom {
             width = widthOf(inch, hip, pleats);
             apron = hip * inch - pleats * width;
             taper = taperOf(inch, hip, waist);
+            striped = isOrLiesUnder(style, STRIPED);
             laying = new Laying(pleats);
         }
 
-        boolean isStriped() {
-            return isOrLiesUnder(style, STRIPED);
-        }
-
         boolean hasItsStripe(Sett sett) {
-            return !isStriped() || sett.hasStripe(stripe);
+            return !striped || sett.hasStripe(stripe);
         }
 
         void putOn(Bolt bolt, int number) {
-            cloth = bolt;
+            laidOn = bolt;
             boltNumber = number;
             widthNow = width;
             turned = false;
@@ -750,12 +748,12 @@ public final class KiltRoom {
         }
 
         boolean canShow(int wide) {
-            if (cloth == null || wide < 1 || wide > MOST_WIDTH) {
+            if (laidOn == null || wide < 1 || wide > MOST_WIDTH) {
                 return false;
             }
             for (int k = 0; k < pleats; k++) {
                 int start = laying.startOf(k);
-                if (wide <= lossOf(k) || start + wide > laying.startBehind(k) || !cloth.isClear(start, wide)) {
+                if (wide <= lossOf(k) || start + wide > laying.startBehind(k) || !laidOn.isClear(start, wide)) {
                     return false;
                 }
             }
@@ -784,10 +782,11 @@ public final class KiltRoom {
         int search(Kilt laidKilt, Bolt onBolt) {
             kilt = laidKilt;
             bolt = onBolt;
-            sett = onBolt.cloth;
+            sett = onBolt.weave;
             placeWithoutPeriods();
+            int mostLift = lift(0, MOST_DEPTH);
             for (int k = Math.min(kilt.pleats, MOST_PLEATS) - 1; k >= 0; k--) {
-                for (int t = 0; t <= MOST_MORE + k * MOST_LIFT && t < ROW; t++) {
+                for (int t = 0; t <= MOST_MORE + k * mostLift && t < ROW; t++) {
                     least[k * ROW + t] = fewestFrom(k, t);
                 }
             }
@@ -824,14 +823,15 @@ public final class KiltRoom {
             int half = kilt.apron / 2;
             firstOver = sett.centredFrom(0, half, 0);
             int x = firstOver + kilt.apron;
-            if (kilt.isStriped()) {
+            if (kilt.striped) {
                 x = sett.centredFrom(x, kilt.width / 2, kilt.stripe);
             }
+            int last = x;
             for (int k = 0; k < kilt.pleats && k < MOST_PLEATS; k++) {
                 firstStarts[k] = x;
+                last = x;
                 x += widthInStep(k);
             }
-            int last = firstStarts[Math.min(kilt.pleats, MOST_PLEATS) - 1];
             firstUnder = sett.centredFrom(last + kilt.width, half, 0);
         }
 
@@ -890,7 +890,7 @@ public final class KiltRoom {
         }
 
         private int widthInStep(int k) {
-            return kilt.isStriped() && !isBandsLast(k) ? 0 : kilt.width;
+            return kilt.striped && !isBandsLast(k) ? 0 : kilt.width;
         }
 
         /** How many PERIODS the STEP behind PLEAT k has by a DEPTH. */
@@ -906,17 +906,6 @@ public final class KiltRoom {
 
         private boolean isBandsLast(int k) {
             return kilt.style == BAND && k == kilt.pleats - 2;
-        }
-    }
-
-    /** A TEXT's two parts, each in the order in which it is reckoned. */
-    private static final class Text {
-        final int[] code;
-        final int fitFrom;
-
-        Text(TextReader read) {
-            code = Arrays.copyOf(read.code, read.codeSize);
-            fitFrom = read.fitFrom;
         }
     }
 
@@ -1133,17 +1122,23 @@ public final class KiltRoom {
         }
     }
 
-    /** Reckons what a part of a TEXT comes to. */
-    private static final class Reckoner {
-        private final int[] stack = new int[MOST_BYTES];
+    /** A TEXT's two parts, each in the order in which it is reckoned. */
+    private static final class Text {
+        private final int[] code, stack;
+        private final int fitFrom;
         private int top;
 
-        int worth(Text text, int part, Kilt kilt) {
-            int[] code = text.code;
-            int from = part == 0 ? 0 : text.fitFrom;
-            int to = Math.min(code.length, part == 0 ? text.fitFrom : code.length);
+        Text(TextReader read) {
+            code = Arrays.copyOf(read.code, read.codeSize);
+            stack = new int[read.codeSize];
+            fitFrom = read.fitFrom;
+        }
+
+        /** What a part (0 price, 1 fit) comes to. */
+        int worth(int part, Kilt kilt) {
+            int to = part == 0 ? fitFrom : code.length;
             top = 0;
-            for (int c = from; c < to; c++) {
+            for (int c = part == 0 ? 0 : fitFrom; c < to && c < code.length; c++) {
                 int what = code[c];
                 if (what >= TextReader.NAMED) {
                     push(named(what - TextReader.NAMED, kilt));
@@ -1186,7 +1181,7 @@ public final class KiltRoom {
         }
 
         private void push(int value) {
-            if (top < MOST_BYTES) {
+            if (top < stack.length) {
                 stack[top] = value;
                 top++;
             }
