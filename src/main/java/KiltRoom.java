@@ -1248,22 +1248,17 @@ public final class KiltRoom {
 
         /** How many KILTS from one on still have room, each for itself. */
         private int mostFrom(int k) {
+            int roomiest = 0;
+            for (int b = 0; b < MOST_BOLTS; b++) {
+                roomiest = Math.max(roomiest, left[b]);
+            }
             int most = 0;
             for (int n = k; n < MOST_KILTS; n++) {
-                if (needed[n] != NONE && hasRoom(needed[n])) {
+                if (needed[n] != NONE && needed[n] <= roomiest) {
                     most++;
                 }
             }
             return most;
-        }
-
-        private boolean hasRoom(int need) {
-            for (int b = 0; b < MOST_BOLTS; b++) {
-                if (need <= left[b]) {
-                    return true;
-                }
-            }
-            return false;
         }
     }
 
