@@ -949,7 +949,8 @@ public final class KiltRoom {
                 return;
             }
             if (level == COMPARED && token == NOT) {
-                if (opens(open)) {
+                if (mayOpen(open)) {
+                    next();
                     expression(COMPARED, open + 1);
                     emit(-NOT);
                 }
@@ -973,12 +974,14 @@ public final class KiltRoom {
                 emit(NAMED + token - FIRST_NAME);
                 next();
             } else if (token == '-') {
-                if (opens(open)) {
+                if (mayOpen(open)) {
+                    next();
                     one(open + 1);
                     emit(-NEGATE);
                 }
             } else if (token == '(') {
-                if (opens(open)) {
+                if (mayOpen(open)) {
+                    next();
                     expression(0, open + 1);
                     pass(')');
                 }
@@ -987,13 +990,11 @@ public final class KiltRoom {
             }
         }
 
-        private boolean opens(int open) {
+        private boolean mayOpen(int open) {
             if (open >= MOST_OPEN) {
                 fail();
-                return false;
             }
-            next();
-            return true;
+            return open < MOST_OPEN;
         }
 
         private static int levelOf(int sign) {
