@@ -55,23 +55,23 @@ public final class Promises {
     if (wrong != 0) System.exit(1);
   }
 
-  private static void tape(KiltRoom x, String s) {
-    for (int i = 0; i < s.length(); i++) x.feed(1, s.charAt(i));
+  private static void tape(Room x, String s) {
+    x.tape(s);
   }
 
-  private static int settOf(KiltRoom x, String s) {
+  private static int settOf(Room x, String s) {
     tape(x, s);
     return x.sett();
   }
 
-  private static int textOf(KiltRoom x, String s) {
+  private static int textOf(Room x, String s) {
     tape(x, s);
     return x.text();
   }
 
   /** A room with one SETT and one BOLT of it. */
-  private static KiltRoom room(String sett, int length) {
-    KiltRoom x = new KiltRoom();
+  private static Room room(String sett, int length) {
+    Room x = new Room();
     settOf(x, sett);
     x.bolt(0, length);
     return x;
@@ -79,7 +79,7 @@ public final class Promises {
 
   private static void newObject() {
     begin(1);
-    KiltRoom x = new KiltRoom();
+    Room x = new Room();
     for (int what = 0; what < 7; what++) due(x.count(what), what == 3 ? 1 : 0);
     due(x.settTold(0, 0), KiltRoom.BAD);
     due(x.flaw(0, 0), KiltRoom.BAD);
@@ -89,7 +89,7 @@ public final class Promises {
 
   private static void feed() {
     begin(2);
-    KiltRoom x = new KiltRoom();
+    Room x = new Room();
     due(x.feed(0, 1), KiltRoom.BAD);
     due(x.feed(9, 1), KiltRoom.BAD);
     due(x.feed(-1, 1), KiltRoom.BAD);
@@ -110,7 +110,7 @@ public final class Promises {
 
   private static void sett() {
     begin(3);
-    KiltRoom x = new KiltRoom();
+    Room x = new Room();
     due(settOf(x, ""), -100);
     due(settOf(x, "a"), -101);
     due(settOf(x, "a5"), -102);
@@ -146,7 +146,7 @@ public final class Promises {
 
   private static void settTold() {
     begin(4);
-    KiltRoom x = new KiltRoom();
+    Room x = new Room();
     settOf(x, "a5 b3 c2/");
     settOf(x, "a5/");
     settOf(x, "a5 b3/");
@@ -161,7 +161,7 @@ public final class Promises {
 
   private static void stripe() {
     begin(5);
-    KiltRoom x = new KiltRoom();
+    Room x = new Room();
     settOf(x, "a5 h4 c1/");
     int[][] told = {{0, 5, 2}, {7, 4, 6}, {2, 1, 9}};
     for (int s = 0; s < 3; s++) for (int what = 0; what < 3; what++) due(x.stripe(0, s, what), told[s][what]);
@@ -174,7 +174,7 @@ public final class Promises {
 
   private static void thread() {
     begin(6);
-    KiltRoom x = new KiltRoom();
+    Room x = new Room();
     settOf(x, "a2 b3 c1 d2/");
     settOf(x, "a2 b3 c1 d2;");
     String turned = "aabbbcddcbbb";
@@ -191,7 +191,7 @@ public final class Promises {
 
   private static void twill() {
     begin(7);
-    KiltRoom x = new KiltRoom();
+    Room x = new Room();
     settOf(x, "a2 b3 c1 d2;");
     String warp = "aabbbcdd";
     for (int a = 0; a < 12; a++) {
@@ -207,7 +207,7 @@ public final class Promises {
 
   private static void bolt() {
     begin(8);
-    KiltRoom x = new KiltRoom();
+    Room x = new Room();
     due(x.bolt(0, 100), KiltRoom.BAD);
     settOf(x, "a2;");
     due(x.bolt(0, 99), KiltRoom.BAD);
@@ -224,7 +224,7 @@ public final class Promises {
 
   private static void flaw() {
     begin(9);
-    KiltRoom x = room("a2;", 100);
+    Room x = room("a2;", 100);
     due(x.flaw(0, -1), KiltRoom.BAD);
     due(x.flaw(0, 100), KiltRoom.BAD);
     due(x.flaw(1, 5), KiltRoom.BAD);
@@ -235,7 +235,7 @@ public final class Promises {
     due(x.flaw(0, 10), KiltRoom.BAD);
     due(x.flaw(0, 50), KiltRoom.FULL);
     // KILTS that are LAID stay so
-    KiltRoom y = room("a10;", 500);
+    Room y = room("a10;", 500);
     y.kilt(0, 420, 420, 0);
     due(y.lay(0, 0), 154);
     due(y.flaw(0, 50), 1);
@@ -245,7 +245,7 @@ public final class Promises {
 
   private static void kilt() {
     begin(10);
-    KiltRoom x = new KiltRoom();
+    Room x = new Room();
     int[][] bad = {{-1, 420, 420, 0}, {6, 420, 420, 0}, {0, 320, 420, 0}, {0, 4120, 420, 0}, {0, 419, 419, 0}, {0, 461, 420, 0},
         {0, 420, 320, 0}, {0, 420, 2520, 0}, {0, 420, 419, 0}, {0, 420, 421, 0}, {0, 420, 420, -1}, {0, 420, 420, 10},
         {0, -420, 420, 0}, {0, 420, -420, 0}, {0, 421, 2420, 0}, {0, 435, 2422, 0}, {0, 431, 2120, 0}};
@@ -260,7 +260,7 @@ public final class Promises {
 
   private static void kiltTold() {
     begin(11);
-    KiltRoom x = room("a10 b4;", 9999);
+    Room x = room("a10 b4;", 9999);
     x.kilt(3, 523, 621, 1);
     // v 115 / 12, APRON 115 - 6 * 9, TAPER 2 * 5 / 2
     int[] told = {3, 9, 61, 5, 6, -1, -1, 0, 5, 23, 21};
@@ -285,7 +285,7 @@ public final class Promises {
 
   private static void lay() {
     begin(12);
-    KiltRoom x = new KiltRoom();
+    Room x = new Room();
     settOf(x, "a10;");
     x.bolt(0, 153);
     x.bolt(0, 154);
@@ -313,14 +313,14 @@ public final class Promises {
     due(x.kiltTold(0, 6), 10);
     due(x.kiltTold(0, 7), 0);
     // a STEP that isn't above v can't be
-    KiltRoom y = room("a2;", 9999);
+    Room y = room("a2;", 9999);
     for (int style = 0; style < 6; style++) y.kilt(style, 420, 420, 0);
     boolean[] can = {true, false, true, false, true, false};
     for (int style = 0; style < 6; style++) due(y.lay(style, 0) == KiltRoom.NONE ? 0 : 1, can[style] ? 1 : 0);
   }
 
   private static void laying(int flaw, int used, int j, int[] depths, int i) {
-    KiltRoom x = room("a10;", 400);
+    Room x = room("a10;", 400);
     x.kilt(0, 420, 420, 0);
     if (flaw >= 0) x.flaw(0, flaw);
     due(x.lay(0, 0), used);
@@ -358,7 +358,7 @@ public final class Promises {
     laying(124, 174, 0, least, 2);
     laying(153, 194, 0, new int[] {1, 1, 2}, 3);
     laying(154, 154, 0, least, 0);
-    KiltRoom x = room("a10;", 400);
+    Room x = room("a10;", 400);
     x.kilt(0, 420, 420, 0);
     due(x.laid(0, 0), KiltRoom.STATE);
     due(x.laid(0, 5), KiltRoom.BAD);
@@ -370,7 +370,7 @@ public final class Promises {
   }
 
   private static void styled(String sett, int style, int used, int[] starts, int[] depths) {
-    KiltRoom x = room(sett, 9999);
+    Room x = room(sett, 9999);
     x.kilt(style, 420, 420, 0);
     due(x.lay(0, 0), used);
     for (int k = 0; k < 4; k++) due(x.pleat(0, k, 0), starts[k]);
@@ -395,7 +395,7 @@ public final class Promises {
 
   private static void pleat() {
     begin(14);
-    KiltRoom x = room("a1 b1 c1 d1 e1 f1 g1 h1;", 500);
+    Room x = room("a1 b1 c1 d1 e1 f1 g1 h1;", 500);
     x.kilt(0, 423, 420, 0);
     int[] lost = {1, 2, 1, 2};
     for (int k = 0; k < 4; k++) {
@@ -424,7 +424,7 @@ public final class Promises {
 
   private static void shown() {
     begin(15);
-    KiltRoom x = room("a1 b1 c1 d1 e1 f1 g1 h1;", 500);
+    Room x = room("a1 b1 c1 d1 e1 f1 g1 h1;", 500);
     x.kilt(0, 423, 420, 0);
     due(x.shown(0, 0, false), KiltRoom.STATE);
     due(x.shown(0, -1, false), KiltRoom.STATE);
@@ -460,7 +460,7 @@ public final class Promises {
 
   private static void around() {
     begin(16);
-    KiltRoom x = room("a1 b1 c1 d1 e1 f1 g1 h1;", 500);
+    Room x = room("a1 b1 c1 d1 e1 f1 g1 h1;", 500);
     x.kilt(0, 423, 420, 0);
     due(x.around(0, false), KiltRoom.STATE);
     due(x.around(0, true), KiltRoom.STATE);
@@ -476,7 +476,7 @@ public final class Promises {
 
   private static void let() {
     begin(17);
-    KiltRoom x = room("a1 b1 c1 d1 e1 f1 g1 h1;", 500);
+    Room x = room("a1 b1 c1 d1 e1 f1 g1 h1;", 500);
     x.kilt(0, 423, 420, 0);
     due(x.let(0, 0), KiltRoom.STATE);
     due(x.let(0, 21), KiltRoom.BAD);
@@ -508,7 +508,7 @@ public final class Promises {
 
   private static void letEdges() {
     begin(17);
-    KiltRoom x = room("a400;", 9999);
+    Room x = room("a400;", 9999);
     x.kilt(2, 4060, 460, 0);
     x.flaw(0, 5998);
     due(x.lay(0, 0), 7199);
@@ -518,7 +518,7 @@ public final class Promises {
     due(x.let(0, 1), KiltRoom.STATE);
     due(x.let(0, -20), 979);
     // 1 thread at least, where nothing is lost
-    KiltRoom y = room("a10;", 400);
+    Room y = room("a10;", 400);
     y.kilt(0, 420, 420, 0);
     y.lay(0, 0);
     due(y.let(0, -10), KiltRoom.STATE);
@@ -532,7 +532,7 @@ public final class Promises {
 
   private static void turn() {
     begin(18);
-    KiltRoom x = room("a10;", 400);
+    Room x = room("a10;", 400);
     x.kilt(0, 420, 420, 0);
     due(x.turn(0), KiltRoom.STATE);
     due(x.turn(1), KiltRoom.BAD);
@@ -545,7 +545,7 @@ public final class Promises {
   }
 
   private static void faulty(String s, int place) {
-    KiltRoom x = new KiltRoom();
+    Room x = new Room();
     due(textOf(x, s), -100 - place);
     due(x.count(4), 0);
     due(x.count(3), 1);
@@ -584,7 +584,7 @@ public final class Promises {
     faulty("price * 1 ; fit 1 ;", 6);
     faulty("price 1\t; fit 1 ;", 7);
     faulty("price 1" + (char) 200 + "; fit 1 ;", 7);
-    KiltRoom x = new KiltRoom();
+    Room x = new Room();
     due(textOf(x, "price used;fit 1;"), 1);
     due(textOf(x, " \nprice\nused\n;\nfit 0000;\n "), 2);
     due(textOf(x, "price1;fit(not 1);"), 3);
@@ -606,7 +606,7 @@ public final class Promises {
     faulty("price (not (-(-(1)))) ; fit 1 ;", 14);
     faulty("price not (not (not (1))) ; fit 1 ;", 20);
     faulty("price 1 ; fit - - ( - - - 1 ) ;", 24);
-    KiltRoom x = new KiltRoom();
+    Room x = new Room();
     due(textOf(x, "price (((((1))))) ; fit -----1 ;"), 1);
     due(textOf(x, "price not not not not not 1 ; fit (not (not (1))) ;"), 2);
     due(textOf(x, "price -----1*-----1--(((-1))) ; fit ((((-1))))+((((-1)))) ;"), 3);
@@ -617,7 +617,7 @@ public final class Promises {
 
   private static void force() {
     begin(20);
-    KiltRoom x = new KiltRoom();
+    Room x = new Room();
     due(x.force(1), KiltRoom.BAD);
     due(x.force(-1), KiltRoom.BAD);
     due(x.force(0), 0);
@@ -631,7 +631,7 @@ public final class Promises {
   }
 
   private static void worth(String e, long want) {
-    KiltRoom x = room("a10;", 400);
+    Room x = room("a10;", 400);
     x.kilt(0, 423, 420, 0);
     x.lay(0, 0);
     x.let(0, 1);
@@ -643,7 +643,7 @@ public final class Promises {
 
   private static void says() {
     begin(21);
-    KiltRoom x = room("a10;", 400);
+    Room x = room("a10;", 400);
     x.kilt(0, 420, 420, 0);
     x.kilt(0, 421, 420, 0);
     due(x.says(0, 0), KiltRoom.NO);
@@ -691,7 +691,7 @@ public final class Promises {
 
   private static void needs() {
     begin(22);
-    KiltRoom x = new KiltRoom();
+    Room x = new Room();
     x.kilt(0, 420, 420, 5);
     x.kilt(1, 420, 420, 1);
     x.kilt(0, 4060, 2460, 0);
@@ -708,11 +708,11 @@ public final class Promises {
     x.flaw(0, 4);
     due(x.needs(0), 154);
     // no STEP can be; or it is longer than any BOLT
-    KiltRoom y = new KiltRoom();
+    Room y = new Room();
     settOf(y, "a2;");
     y.kilt(1, 420, 420, 0);
     due(y.needs(0), KiltRoom.NONE);
-    KiltRoom z = new KiltRoom();
+    Room z = new Room();
     settOf(z, "a400;");
     z.kilt(4, 4060, 2460, 0);
     z.kilt(2, 4060, 460, 0);
@@ -721,8 +721,8 @@ public final class Promises {
   }
 
   /** KILTS that need 154 each, and some more by 10 for each inch of 10 threads. */
-  private static KiltRoom bandRoom(int... lengths) {
-    KiltRoom x = new KiltRoom();
+  private static Room bandRoom(int... lengths) {
+    Room x = new Room();
     settOf(x, "a10;");
     settOf(x, "b10;");
     for (int length : lengths) x.bolt(length < 0 ? 1 : 0, Math.abs(length));
@@ -730,17 +730,17 @@ public final class Promises {
     return x;
   }
 
-  private static void cut(KiltRoom x, int bits, int many, int... bolts) {
+  private static void cut(Room x, int bits, int many, int... bolts) {
     due(x.band(bits), many);
     for (int k = 0; k < bolts.length; k++) due(x.from(k), bolts[k]);
   }
 
   private static void band() {
     begin(23);
-    KiltRoom none = new KiltRoom();
+    Room none = new Room();
     due(none.band(0), KiltRoom.STATE);
     due(none.band(1), KiltRoom.BAD);
-    KiltRoom x = bandRoom();
+    Room x = bandRoom();
     cut(x, 15, 0, -1, -1, -1, -1);
     due(x.band(16), KiltRoom.BAD);
     due(x.band(-1), KiltRoom.BAD);
@@ -753,11 +753,11 @@ public final class Promises {
     // BOLTS of other SETTS don't count
     cut(bandRoom(-999, 154), 15, 1, 1, -1, -1, -1);
     // FLAWS don't matter
-    KiltRoom y = bandRoom(308);
+    Room y = bandRoom(308);
     for (int f = 0; f < 10; f++) y.flaw(0, 30 * f);
     cut(y, 15, 2, 0, 0, -1, -1);
     // a KILT whose STRIPE SETT 0 hasn't
-    KiltRoom z = bandRoom(999);
+    Room z = bandRoom(999);
     due(z.kilt(1, 420, 420, 1), 4);
     cut(z, 17, 1, 0, -1, -1, -1, -1);
   }
@@ -772,7 +772,7 @@ public final class Promises {
     cut(bandRoom(154, 154, 154, 154), 15, 4, 0, 1, 2, 3);
     cut(bandRoom(616, 616), 15, 4, 0, 0, 0, 0);
     // as many as can be: a long one stays
-    KiltRoom x = new KiltRoom();
+    Room x = new Room();
     settOf(x, "a10;");
     x.kilt(0, 460, 460, 0);
     x.kilt(0, 420, 420, 0);
@@ -786,7 +786,7 @@ public final class Promises {
 
   private static void from() {
     begin(24);
-    KiltRoom x = bandRoom(308);
+    Room x = bandRoom(308);
     due(x.from(0), KiltRoom.NONE);
     due(x.band(3), 2);
     due(x.from(1), 0);
@@ -803,7 +803,7 @@ public final class Promises {
 
   private static void count() {
     begin(25);
-    KiltRoom x = room("a10;", 400);
+    Room x = room("a10;", 400);
     x.bolt(0, 400);
     for (int k = 0; k < 3; k++) x.kilt(0, 420, 420, 0);
     x.lay(1, 0);
@@ -820,7 +820,7 @@ public final class Promises {
 
   private static void sheet() {
     begin(26);
-    KiltRoom x = new KiltRoom();
+    Room x = new Room();
     due(x.sheet(4, 0, 1), KiltRoom.BAD);
     due(x.sheet(-1, 0, 1), KiltRoom.BAD);
     due(x.sheet(0, 3, 1), KiltRoom.BAD);
@@ -852,7 +852,7 @@ public final class Promises {
 
   private static void cell() {
     begin(27);
-    KiltRoom x = new KiltRoom();
+    Room x = new Room();
     settOf(x, "a2;");
     x.bolt(0, 9999);
     due(x.cell(4, 0, 0), KiltRoom.BAD);
@@ -878,7 +878,7 @@ public final class Promises {
 
   private static void flaws() {
     begin(28);
-    KiltRoom x = room("a2;", 100);
+    Room x = room("a2;", 100);
     x.sheet(0, 2, 15);
     for (int i = 0; i < 15; i++) x.cell(0, i, 10 + i);
     due(x.flaws(1, 0, 2, 0, 1), KiltRoom.BAD);
@@ -912,7 +912,7 @@ public final class Promises {
 
   private static void taken() {
     begin(29);
-    KiltRoom x = new KiltRoom();
+    Room x = new Room();
     for (int style = 0; style < 6; style++) x.kilt(style, 420 + style, 420, 0);
     String[] above = {"0", "10", "20", "310", "420", "5310"};
     for (int style = 0; style < 6; style++) {

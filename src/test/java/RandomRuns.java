@@ -9,7 +9,8 @@ import java.util.regex.Pattern;
 
 /** Random runs of calls, each answered by KiltRoom and by a second, slow room written otherwise. */
 public final class RandomRuns {
-  private static final int RUNS = 1500, CALLS = 220;
+  /** No step makes more than DEAREST calls, so a run stays below an object's 512 calls. */
+  private static final int RUNS = 2500, MOST_CALLS = 512, DEAREST = 60;
   private static int wrong = 0;
   private static final int[] asked = new int[28];
   private static final int[] granted = new int[28];
@@ -35,6 +36,7 @@ public final class RandomRuns {
     final StringBuilder log = new StringBuilder();
     final boolean smallSetts;
     final int run;
+    int calls;
     boolean right = true;
 
     Run(int run) {
@@ -44,12 +46,14 @@ public final class RandomRuns {
     }
 
     void go() {
-      for (int c = 0; c < CALLS && right; c++) {
-        if (c < 12) opening(c); else any();
+      for (int step = 0; calls + DEAREST <= MOST_CALLS && right; step++) {
+        if (step < 12) opening(step); else any();
       }
+      if (calls > MOST_CALLS) throw new IllegalStateException(calls + " calls of one object");
     }
 
     void due(int call, String told, long got, long want) {
+      calls++;
       asked[call]++;
       if (want >= 0) granted[call]++;
       log.append(told).append(" -> ").append(want).append('\n');
