@@ -42,6 +42,7 @@ public final class BoundsOfLaying {
     likeOnesLeastDepths();
     likeOnesLeastI();
     mostPleats();
+    allAtMost();
     layRefuses();
     layAsksForStripe();
     layNoneChangesNothing();
@@ -442,6 +443,33 @@ public final class BoundsOfLaying {
     // PLEAT 0 can stand at 56 .. 59, and the FLAWS are each at its remainder when it stands at 56
     due(y.lay(0, 0), 56 + 23 * 4 + 1 + 56 + 1);
     due(y.laid(0, 3), 1);
+  }
+
+  /** 24 PLEATS of one thread on a SETT of one thread: the FLAWS keep the under APRON away till all is at its most. */
+  private static void allAtMost(int style, int used, int depth, int depthOfLast, int... flaws) {
+    Room x = Room.of("a1;", 9999);
+    x.kilt(style, 420, 2420, 0);
+    for (int f : flaws) x.flaw(0, f);
+    due(x.lay(0, 0), used);
+    due(x.laid(0, 3), 3);
+    due(x.laid(0, 4), 3);
+    due(x.laid(0, 1), used - 56);
+    due(x.pleat(0, 0, 0), 59);
+    due(x.pleat(0, 23, 0), used - 60);
+    for (int k = 0; k < 23; k++) due(x.pleat(0, k, 1), k == 22 ? depthOfLast : depth);
+    x.flaw(0, used - 56);
+    due(x.lay(0, 0), NONE);
+    due(x.laid(0, 2), used);
+  }
+
+  private static void allAtMost() {
+    Check.sentence(12, "j 0 .. 3, DEPTH m (1 .. 4), i 0 .. 3, 24 PLEATS (all at their most at once)");
+    allAtMost(0, 234, 4, 4, 121, 177);
+    allAtMost(1, 211, 4, 4, 154);
+    allAtMost(2, 257, 4, 4, 144, 200);
+    allAtMost(3, 211, 3, 3, 154);
+    allAtMost(4, 349, 4, 4, 180, 236, 292);
+    allAtMost(5, 212, 3, 4, 155);
   }
 
   private static void layRefuses() {

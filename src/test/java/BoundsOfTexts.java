@@ -21,6 +21,8 @@ public final class BoundsOfTexts {
     eachByteAheadOfAOne();
     wordsAsLongAsCanBe();
     wordsKnown();
+    wordsOneLetterOff();
+    wordsWhereOthersCanStand();
     numbersAtMost();
     numbersAsLongAsCanBe();
     namesAndKeys();
@@ -294,6 +296,46 @@ public final class BoundsOfTexts {
     faultOfE("hip`", 3);
     faultOfE("hip{", 3);
     faultOfE("hi{p", 0);
+  }
+
+  private static void wordsOneLetterOff() {
+    Check.sentence(19, "NAMES are used pleats hip waist shown style; price, fit, or, and, not are KEYS (letter by letter)");
+    for (String w : List.of("used", "pleats", "hip", "waist", "shown", "style", "not", "or", "and", "fit", "price")) {
+      boolean joins = w.equals("or") || w.equals("and");
+      for (int at = 0; at < w.length(); at++) {
+        for (String other : List.of("z", "a", "e", "", w.charAt(at) + "" + w.charAt(at))) {
+          String off = w.substring(0, at) + other + w.substring(at + 1);
+          if (off.equals(w) || off.isEmpty()) continue;
+          if (joins) faultOfE("1 " + off + " 1", 2);
+          else if (w.equals("not")) faultOfE(off + " 1", 0);
+          else if (w.equals("fit")) fault("price 1;" + off + " 1;", 8);
+          else if (w.equals("price")) fault(off + " 1;fit 1;", 0);
+          else faultOfE(off, 0);
+        }
+      }
+      for (String end : List.of("a", "z")) {
+        faultOfE("1 " + w + end + " 1", 2);
+        faultOfE(end + w + " 1", 0);
+      }
+    }
+  }
+
+  private static void wordsWhereOthersCanStand() {
+    Check.sentence(19, "FAULT .. also of a byte that begins none, a WORD that is neither .., a NUMBER that is too long (ahead of a ONE)");
+    for (String wrong : List.of("zz", "12345", "!", "Hip")) {
+      faultOfE("(" + wrong + ")", 1);
+      faultOfE("((" + wrong, 2);
+      faultOfE("-" + wrong, 1);
+      faultOfE("not " + wrong, 4);
+      faultOfE("not not " + wrong, 8);
+      faultOfE("1 and " + wrong, 6);
+      faultOfE("1*" + wrong, 2);
+      faultOfE("1=" + wrong, 2);
+      fault("price " + wrong + ";" + wrong, 6);
+      fault("price 1;" + wrong, 8);
+      fault("price 1;fit 1;" + wrong, 14);
+      fault(wrong + "price 1;fit 1;", 0);
+    }
   }
 
   private static void numbersAtMost() {

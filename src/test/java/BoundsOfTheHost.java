@@ -427,6 +427,10 @@ public final class BoundsOfTheHost {
         due(x.let(style, -1), 9 + style);
       }
     }
+    Room y = Room.withKilt("a79;", 999, 0);
+    y.lay(0, 0);
+    due(y.let(0, 9), 19);
+    due(y.taken(0, 0), 10);
   }
 
   private static void takenRefuses() {

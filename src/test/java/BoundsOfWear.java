@@ -17,6 +17,7 @@ public final class BoundsOfWear {
     shownBeyondLetOut();
     shownRefuses();
     shownTurned();
+    shownOfItsBolt();
     aroundTold();
     aroundRefuses();
     letByAtMost();
@@ -153,6 +154,22 @@ public final class BoundsOfWear {
     y.turn(0);
     y.lay(0, 0);
     shows(y, true, 1, 10, false);
+  }
+
+  private static void shownOfItsBolt() {
+    Check.sentence(15, "COLOUR of the i-th thread that is shown (of the SETT of the BOLT on which it is LAID)");
+    Room x = new Room();
+    x.sett("a5;");
+    x.sett(RAINBOW);
+    x.sett("h3;");
+    for (int b = 0; b < 3; b++) x.bolt(b, 999);
+    x.kilt(0, 426, 420, 0);
+    x.lay(0, 0);
+    for (int i = 0; i < 52; i++) due(x.shown(0, i, false), 0);
+    x.lay(0, 1);
+    shows(x, false, 0, 13, false);
+    x.lay(0, 2);
+    for (int i = 0; i < 40; i++) due(x.shown(0, i, true), 7);
   }
 
   // ---- promise 16
